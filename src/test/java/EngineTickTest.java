@@ -230,6 +230,10 @@ public final class EngineTickTest {
         // 2000 at most, then less by 2000 * 1 * 1300 / 20000
         due("heat", x.engine(1), 1870);
         due("greatest heat", x.count(16) <= 2000 ? 1 : 0, 1);
+        // 10 burn: 1100 + 75, less 11 hundredths; 2000 less 2000 * 1 * 1246 / 20000
+        x.set(JetStarts.DRAG, 11);
+        due("slower", x.tick(1), 1046);
+        due("heat of 2000 at most", x.engine(1), 1876);
         x.set(JetStarts.COOL, 40);
         x.tick(1);
         due("heat is not below 0", x.engine(1), 0);

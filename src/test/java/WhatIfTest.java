@@ -187,6 +187,14 @@ public final class WhatIfTest {
         due("though it would run", untilWith(x, 10) > 0 ? 1 : 0, 1);
         x.set(JetStarts.LIMIT, 300);
         due("all are too hot", x.bestFuel(), -6);
+        x.fuel(10);
+        int ticks = x.untilRunning();
+        due("though it would run", ticks > 0 ? 1 : 0, 1);
+        due("behind hot ticks", x.ifTicked(ticks, 3) > 0 ? 1 : 0, 1);
+        int least = x.leastBattery();
+        due("with this battery, too", least >= 0 ? 1 : 0, 1);
+        x.battery(least);
+        due("indeed", x.untilRunning() > 0 ? 1 : 0, 1);
     }
 
     /** Hot in the very tick in which it runs, and hot behind it. */
