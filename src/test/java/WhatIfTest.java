@@ -242,24 +242,6 @@ public final class WhatIfTest {
         due("not with 1000", x.leastBattery(), -6);
     }
 
-    /** With a start of 1000 alone: LIGHT is reached in the last moment. */
-    private static void leastBatteryUpTo1000() {
-        boolean isFoundAt1000 = false;
-        for (int crank = 3; crank <= 14; crank++) {
-            for (int light = 60; light <= 400; light++) {
-                JetStarts x = new JetStarts();
-                x.set(JetStarts.CRANK, crank);
-                x.set(JetStarts.DRAG, 1);
-                x.set(JetStarts.LIGHT, light);
-                x.spark(true);
-                x.fuel(10);
-                x.starter(true);
-                isFoundAt1000 |= x.leastBattery() == 1000;
-            }
-        }
-        due("1000 is among them", isFoundAt1000 ? 1 : 0, 1);
-    }
-
     private static void nothingChanges() {
         JetStarts x = started();
         x.starter(false);
@@ -292,7 +274,6 @@ public final class WhatIfTest {
         bestFuelIsNotTooHot();
         bestFuelAndTheTickInWhichItRuns();
         leastBattery();
-        leastBatteryUpTo1000();
         nothingChanges();
         Due.end();
     }
