@@ -20,6 +20,9 @@ public final class FaceTest {
         "restore(int)"};
     private static final String[] CONSTANTS = {"NO_SUCH=-1", "BAD_VALUE=-2", "BAD_TEXT=-3", "TOO_MANY=-4",
         "NOT_POSSIBLE=-5", "NONE=-6", "CRANK=0", "DRAG=1", "HEAT=2", "COOL=3", "LIMIT=4", "LIGHT=5", "HANG=6"};
+    private static final List<Class<?>> STATIC_TYPES = List.of(int.class, long.class, boolean.class, char.class,
+        String.class, int[].class, long[].class, char[].class, byte[].class);
+    private static final List<String> NAMES = Arrays.stream(METHODS).map(name -> name.replaceAll("\\(.*", "")).toList();
 
     private FaceTest() {
     }
@@ -41,20 +44,14 @@ public final class FaceTest {
 
     private static void methods() {
         List<String> shown = new ArrayList<>();
-        TreeSet<String> names = new TreeSet<>();
         for (Method method : JetStarts.class.getDeclaredMethods()) {
             if (!Modifier.isPrivate(method.getModifiers())) {
                 shown.add(method.getName() + "(" + types(method.getParameterTypes()) + ")");
-                names.add(method.getName());
                 Due.due(method + " answers an int", method.getReturnType() == int.class ? 1 : 0, 1);
                 Due.due(method + " is public alone", method.getModifiers(), Modifier.PUBLIC);
             }
         }
         same("methods", shown, METHODS);
-        for (Method method : JetStarts.class.getDeclaredMethods()) {
-            boolean isPrivate = Modifier.isPrivate(method.getModifiers());
-            Due.due(method + " has a name of its own", isPrivate && names.contains(method.getName()) ? 1 : 0, 0);
-        }
     }
 
     private static void fieldsAndConstructors() throws IllegalAccessException {
@@ -85,6 +82,28 @@ public final class FaceTest {
         }
     }
 
+    /** Rules 1, 5 and 11 of LANGUAGE.md, in the class and in each class inside it. */
+    private static void limits() {
+        List<Class<?>> all = new ArrayList<>(Arrays.asList(JetStarts.class.getDeclaredClasses()));
+        all.add(JetStarts.class);
+        Due.due(all.size() + " classes are some twelve at most", all.size() <= 12 ? 1 : 0, 1);
+        for (Class<?> each : all) {
+            int fields = 0;
+            for (Field field : each.getDeclaredFields()) {
+                boolean isStatic = Modifier.isStatic(field.getModifiers());
+                fields += isStatic ? 0 : 1;
+                boolean isConstant = Modifier.isFinal(field.getModifiers()) && STATIC_TYPES.contains(field.getType());
+                Due.due(field + " is a constant, if it is static", isStatic && !isConstant ? 1 : 0, 0);
+            }
+            Due.due(each + " has " + fields + " fields, twenty at most", fields <= 20 ? 1 : 0, 1);
+            for (Method method : each.getDeclaredMethods()) {
+                Due.due(method + " takes seven parameters at most", method.getParameterCount() <= 7 ? 1 : 0, 1);
+                boolean isFace = Modifier.isPublic(method.getModifiers()) && each == JetStarts.class;
+                Due.due(method + " has no name of the face", !isFace && NAMES.contains(method.getName()) ? 1 : 0, 0);
+            }
+        }
+    }
+
     private static void words() throws IOException {
         String source = Files.readString(Path.of("src/main/java/JetStarts.java"));
         String code = source.replaceAll("(?s)/\\*.*?\\*/", "").replaceAll("//[^\n]*", "").replaceAll("'.'", "' '");
@@ -102,6 +121,7 @@ public final class FaceTest {
         methods();
         fieldsAndConstructors();
         classes();
+        limits();
         words();
         Due.end();
     }
